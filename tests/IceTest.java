@@ -202,5 +202,11 @@ public final class IceTest {
     Due.is("shorts", x.years(0, 1), -12);
     Due.lay(x, 1, 2, 0, 9, 0);
     Due.is("no TIREDNESS", x.years(1, 1), -4);
+    Due.lay(x, 1, 2, 0, 10);
+    Due.is("TIREDNESS 1", x.years(1, 77), 77);
+    Due.lay(x, 2, 2, 500, 0, 500);
+    Due.is("two SWINGS", x.swings(2, 0), 2);
+    Due.is("one SWING, behind that", x.swings(1, 0), 1);
+    Due.is("the greatest, behind that", x.swings(1, 1), 10);
   }
 }

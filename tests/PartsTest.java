@@ -7,6 +7,7 @@ public final class PartsTest {
     newObject();
     textSyntax();
     textSyntaxOfRopes();
+    textOfTheGreatestSize();
     textSense();
     textRoom();
     textComesWholeOrNotAtAll();
@@ -108,6 +109,31 @@ public final class PartsTest {
     faultOf("r0 w 9 9 1000;", -1012);
   }
 
+  /** A text of 120 bytes: many of f1; and the end that is wanted. */
+  private static String full(String end) {
+    StringBuilder text = new StringBuilder();
+    while ((120 - end.length() - text.length()) % 3 != 0) {
+      text.append("f12;");
+    }
+    while (text.length() + end.length() < 120) {
+      text.append("f1;");
+    }
+    return text.append(end).toString();
+  }
+
+  private static void textOfTheGreatestSize() {
+    String[] ends = {"f", "f1", "f0", "p", "p0", "p0 ", "p0 20 5 7 9", "r", "r0", "r0 ", "r0 e", "r0 e ", "r0 e 9 9 9"};
+    for (String end : ends) {
+      faultOf(full(end), -1120);
+    }
+    faultOf(full("x"), -1119);
+    faultOf(full("f01"), -1119);
+    faultOf(full("p0 10 1 1 1;"), -2108);
+    MastWind x = new MastWind();
+    Due.is("the greatest number of STATEMENTS", Due.text(x, full("f7;")), 40);
+    Due.is("the FOOT", x.told(5), 7);
+  }
+
   private static void textSense() {
     faultOf("p4 20 5 7 9;", -2000);
     faultOf("p999 20 5 7 9;", -2000);
@@ -166,6 +192,10 @@ public final class PartsTest {
     Due.is("PIECES", x.told(0), 3);
     Due.is("ROPES", x.told(1), 1);
     Due.is("the FOOT", x.told(5), 5);
+    Due.is("with a FAULT of kind 1", Due.text(x, "f6;f7"), -1005);
+    Due.is("the next one", Due.text(x, "f5;"), 1);
+    Due.is("then", Due.text(x, "p1 20 3 4 5;"), -2000);
+    Due.lay(x, 7, "f5;p1 20 3 4 5;");
     Due.is("ICE stays", x.piece(0, 5), 20);
     Due.is("ICE of the new one", x.piece(1, 5), 0);
     // The ROW stays on its SHELF: read again, its PIECE isn't above the last one.

@@ -6,6 +6,7 @@ public final class RulesTest {
   public static void main(String[] args) {
     faults();
     faultsOfDepth();
+    faultsOfTheGreatestSize();
     faultRefusals();
     ruleNumbers();
     ruleRefusals();
@@ -104,6 +105,30 @@ public final class RulesTest {
     faultOf(text.toString() + "!!!", 120);
   }
 
+  private static void faultsOfTheGreatestSize() {
+    String[] ends = {"!", "(", "s", "s+", "1", "s>", "s>1-", "s>1&", "s>1|", "(s>1", "!(s>1&s"};
+    for (String end : ends) {
+      faultOf(full(end), 120);
+    }
+    faultOf(full("s>1"), -4);
+    faultOf(full("(s>123)"), -4);
+    faultOf(full("s>00"), 119);
+    faultOf(full("s>12345"), 119);
+    faultOf(full("s>1)"), 119);
+  }
+
+  /** A text of 120 bytes: many of s>0& and the end that is wanted. */
+  private static String full(String end) {
+    StringBuilder text = new StringBuilder();
+    while ((120 - end.length() - text.length()) % 4 != 0) {
+      text.append('!');
+    }
+    while (text.length() + end.length() < 120) {
+      text.append("s>0&");
+    }
+    return text.append(end).toString();
+  }
+
   private static void faultRefusals() {
     MastWind x = Due.mast("p0 10 1 10 9;");
     Due.is("fault(-1)", x.fault(-1), -1);
@@ -152,6 +177,12 @@ public final class RulesTest {
     Due.lay(x, 0, "");
     Due.is("an empty one", x.rule(0), -100);
     Due.is("RULES", x.told(6), 0);
+    // What was begun in one with a FAULT is forgotten in the next one.
+    Due.lay(x, 0, "!(!");
+    Due.is("one with a FAULT", x.rule(0), -103);
+    Due.lay(x, 0, "1=0&(1=1)");
+    Due.is("one without", x.rule(0), 0);
+    Due.is("breach(0, 0)", x.breach(0, 0), -4);
   }
 
   /** Whether a text holds for a PIECE in an HOUR; after twelve of them all is as in THE IMAGE. */
@@ -306,6 +337,7 @@ public final class RulesTest {
     Due.lay(x, 0, "p=0&h=7");
     x.rule(0);
     Due.is("climb(7)", x.climb(7), -4);
+    Due.is("climb(23)", x.climb(23), 0);
     Due.is("climb(24)", x.climb(24), -1);
     Due.is("climb(-1)", x.climb(-1), -1);
     MastWind none = new MastWind();

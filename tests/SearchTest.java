@@ -40,6 +40,14 @@ public final class SearchTest {
     Due.is("LEAN with its new TIGHT", x.order(1, 90, 5, 90), 0);
     Due.is("LEAN with its new TIGHT, more", x.order(1, 120, 6, 120), -4);
     Due.is("PULL with its new TIGHT", x.order(1, 90, 5, 89), -4);
+    // As long as it isn't drawn anew, a ROPE is as TIGHT as it was.
+    Due.is("to 0", x.order(3, 0, 5, 50), 16);
+    Due.is("to 0, less LEAN", x.order(3, 0, 4, 50), -4);
+    x.tight(0, 0);
+    x.tight(1, 0);
+    Due.is("from 0 to 0", x.order(3, 0, 0, 1), 16);
+    Due.is("from 0 to 1", x.order(3, 1, 0, 1), 16);
+    Due.is("from 0 to 999", x.order(1, 999, 300, 9999), 0);
     MastWind y = pair("w", "e");
     Due.is("the one at which to begin", y.order(3, 100, 9, 100), 1);
     Due.is("the first by numbers", y.order(3, 100, 10, 100), 16);
@@ -84,6 +92,9 @@ public final class SearchTest {
     Due.is("the other, nothing held by ROPES then", x.order(1, 100, 300, 100), 0);
     x.becomes(1, 1);
     Due.is("one that is CUT", x.order(2, 100, 300, 100), -1);
+    x.becomes(1, 0);
+    x.becomes(0, 1);
+    Due.is("the first one CUT", x.order(3, 100, 300, 100), -1);
     Due.is("without ROPES", new MastWind().order(1, 100, 300, 100), -1);
   }
 
@@ -99,6 +110,10 @@ public final class SearchTest {
     Due.is("none", x.readBack(0, 9999, 99, 0), -4);
     Due.is("none", x.readBack(0, 9999, 99, 1), -4);
     Due.is("TIGHT stays", x.rope(0, 4), 50);
+    // With a FOOT that gives much: 999 by 5 is held by 9 times 500, and the ROPE pulls 999 there.
+    MastWind y = Due.mast("p0 10 1 0 1;f999;r0 e 10 1 50;");
+    Due.is("the most there is", y.readBack(0, 999, 0, 1), 999);
+    Due.is("the most there is", y.readBack(0, 999, 99, 0), 900);
   }
 
   private static void readBackWhenItLeans() {

@@ -72,6 +72,9 @@ public final class ShelvesTest {
     Due.is("the ROW stays", x.element(0, 119), 5);
     Due.is("row(0, 0, 120) again", x.row(0, 0, 120), 0);
     Due.is("0 at first", x.element(0, 119), 0);
+    x.put(0, 0, 5);
+    x.row(0, 0, 1);
+    Due.is("0 at first", x.element(0, 0), 0);
     Due.is("row(0, 2, 0)", x.row(0, 2, 0), 0);
     Due.throwsIt("element(0, 0) of an empty one", () -> x.element(0, 0), 2);
     x.keep(1, 1, 0);
@@ -162,6 +165,10 @@ public final class ShelvesTest {
     Due.is("a PIECE", x.copy(3, 0, 0, 0, 1), -12);
     Due.is("to a PIECE", x.copy(0, 0, 3, 9, 1), -12);
     Due.is("two PIECES", x.copy(3, 0, 3, 0, 1), -12);
+    Due.lay(x, 5, 1, 4, 5);
+    x.keep(5, 1, 0);
+    Due.is("a PIECE in the place of a ROW", x.copy(5, 0, 0, 0, 1), -12);
+    Due.is("to a PIECE in the place of a ROW", x.copy(0, 0, 5, 0, 1), -12);
     Due.lay(x, 4, 2, 4, 5);
     Due.is("another SORT", x.copy(0, 9, 4, 9, 1), -12);
     Due.is("a place behind", x.copy(0, 2, 1, 0, 2), -13);

@@ -77,6 +77,9 @@ public final class TonesTest {
     // At 9999 a is 1, 99, 0: q is 1000; 99000 - 9801000; 0 + 9801000000 by 9702000.
     MastWind y = Due.mast("p0 20 1 0 1;p0 30 1 0 99;p0 40 1 0 99;");
     Due.is("count(9999)", y.count(9999), 1);
+    // At 200 a is 0, 98, -11: q is 0; 98000 - 1000000 by 1; -11000 + 9801000000 by 902000.
+    MastWind z = Due.mast("p0 20 1 0 1;p0 30 1 0 1;p0 40 55 0 99;");
+    Due.is("count(200)", z.count(200), 2);
   }
 
   private static void tone() {

@@ -10,6 +10,7 @@ public final class WindsTest {
     rest();
     stand();
     standAtTheEdges();
+    standIsNotSoughtOnTheOtherSide();
     stands();
     standsToTheWest();
     pull();
@@ -119,6 +120,17 @@ public final class WindsTest {
     Due.is("300 to the east", edge(at300, 1), FALLS);
     Due.is("300 to the west", edge(at300, -1), -300);
     Due.is("301 to the west", edge(at301, -1), FALLS);
+  }
+
+  private static void standIsNotSoughtOnTheOtherSide() {
+    // WEIGHT bears it to the east from 1 on, but from 0 on it goes to the west.
+    MastWind x = Due.mast("p3 90 99 0 1;p3 91 99 0 1;p3 92 99 0 1;p3 93 99 0 1;p3 94 99 0 1;p3 95 99 0 1;",
+        "p3 96 99 0 1;p3 97 99 0 1;p3 98 99 0 1;p3 99 99 2 1;");
+    x.wind(10, -1);
+    Due.is("rest(0)", x.rest(0), -99);
+    Due.is("rest(1)", x.rest(1), -99 + 4 * 18 + 5 * 19 + 20);
+    Due.is("stand()", x.stand(), FALLS);
+    Due.is("stands(-1)", x.stands(-1), 0);
   }
 
   private static void stands() {
