@@ -15,10 +15,10 @@ public final class ExtremesTest {
     Method[] face = MastWind.class.getDeclaredMethods();
     face = Arrays.stream(face).filter(m -> java.lang.reflect.Modifier.isPublic(m.getModifiers()))
         .sorted(Comparator.comparing(Method::getName)).toArray(Method[]::new);
-    for (int seed = 0; seed < 300; seed++) {
+    for (int seed = 0; seed < 360; seed++) {
       Random random = new Random(seed);
       MastWind x = seed % 3 == 0 ? new MastWind() : big();
-      for (int i = 0; i < 350; i++) {
+      for (int i = 0; i < 300; i++) {
         ask(x, face[random.nextInt(face.length)], random);
       }
     }
