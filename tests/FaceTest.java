@@ -25,6 +25,7 @@ public final class FaceTest {
 
   public static void main(String[] args) throws Exception {
     members();
+    throwsWhatIsTold();
     classesInside();
     words();
     Due.finish();
@@ -61,6 +62,24 @@ public final class FaceTest {
     Due.is("the class is public and final", Modifier.isPublic(classIs) && Modifier.isFinal(classIs) ? 1 : 0, 1);
     Due.is("constructors", MastWind.class.getDeclaredConstructors().length, 1);
     Due.is("public ones", MastWind.class.getConstructors().length, 1);
+  }
+
+  /** Only three calls may throw, and each tells what. */
+  private static void throwsWhatIsTold() {
+    for (Method m : MastWind.class.getDeclaredMethods()) {
+      StringBuilder told = new StringBuilder();
+      for (Class<?> c : m.getExceptionTypes()) {
+        told.append(c.getSimpleName()).append(' ');
+      }
+      String due = "";
+      if (m.getName().equals("push") || m.getName().equals("rest")) {
+        due = "IllegalArgumentException ";
+      } else if (m.getName().equals("element")) {
+        due = "IllegalArgumentException IllegalStateException ";
+      }
+      Due.is(m.getName() + " tells that it throws " + due, told.toString().equals(due) ? 1 : 0, 1);
+    }
+    Due.is("what the constructor tells", MastWind.class.getConstructors()[0].getExceptionTypes().length, 0);
   }
 
   private static void classesInside() {
